@@ -808,7 +808,6 @@ public final class PairedSteps {
 
         void begin() {
             total = 0;
-            cutOff = false;
         }
 
         void add(int value) {
@@ -861,8 +860,9 @@ public final class PairedSteps {
         void follow(Listing listing, int first, int second) {
             begin(first, second);
             int at = 0;
-            for (steps = 0; steps < MAX_STEPS && listing.holds(at); steps++) {
+            for (int made = 0; made < MAX_STEPS && listing.holds(at); made++) {
                 at = stepFrom(listing, at);
+                steps++;
             }
             output.cutOff = listing.holds(at);
         }
@@ -877,6 +877,7 @@ public final class PairedSteps {
                 roundsSince[statement] = 0;
             }
             output.begin();
+            steps = 0;
             marks = 0;
             rounds = 0;
             mostRounds = 0;

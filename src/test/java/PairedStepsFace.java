@@ -45,8 +45,7 @@ public final class PairedStepsFace {
         Set<String> found = new TreeSet<>();
         for (Method method : face.getDeclaredMethods()) {
             if (Modifier.isPrivate(method.getModifiers()) || method.isSynthetic()) {
-                hold(FACE.stream().noneMatch(name -> name.startsWith(method.getName() + "/")),
-                    "no private method with a public name: " + method.getName());
+                noPublicName(method);
             } else {
                 found.add(method.getName() + "/" + method.getParameterCount());
                 hold(Modifier.isPublic(method.getModifiers()) && method.getReturnType() == int.class,
@@ -72,8 +71,14 @@ public final class PairedStepsFace {
             hold(one.getDeclaredFields().length <= 20, "at most twenty fields: " + one.getName());
             for (Method method : one.getDeclaredMethods()) {
                 hold(method.getParameterCount() <= 7, "at most seven parameters: " + method.getName());
+                noPublicName(method);
             }
         }
+    }
+
+    private static void noPublicName(Method method) {
+        hold(FACE.stream().noneMatch(name -> name.startsWith(method.getName() + "/")),
+            "no private method with a public name: " + method.getName());
     }
 
     private static void words() throws IOException {

@@ -166,6 +166,8 @@ public final class PairedStepsPromises {
 
     private static void readSpaces() {
         reads("   ", 0);
+        reads(times(" ", 120), 0);
+        reads(times(" ", 118) + "#;", 1);
         reads("  a  =  b  +  7  ;  ", 1);
         reads(" ! a ; # ; [ a # ; ] ? b # ; : # ; . ", 7);
         reads("a=1 2;", -1004);
@@ -284,6 +286,9 @@ public final class PairedStepsPromises {
         due("program 1 before it", x.count(1), 0);
         due("program 0 before it", x.count(0), 1);
         due("the text is no part of a state", x.count(3), 5);
+        due("a text that fails in two [", readText(x, 0, "[a[a;"), -1004);
+        due("a text behind it", readText(x, 1, "#;"), 1);
+        due("a ] behind it", readText(x, 1, "#;]"), -1002);
         x.clearText();
         due("read the empty text", x.read(0), 0);
         due("count 0", x.count(0), 0);
@@ -472,6 +477,9 @@ public final class PairedStepsPromises {
         due("set", y.program(0, 7), 2);
         due("nested 5", y.program(1, 6), 5);
         due("set", y.program(1, 7), 32);
+        due("nested 1", with("[a#;]", "").program(0, 6), 1);
+        due("nested 1", with("?a:.", "").program(0, 6), 1);
+        due("nested 2, then 1", with("[a[b]][c]", "").program(0, 6), 2);
         due("a cell that is only read", with("!a;b=c;", "").program(0, 7), 2);
     }
 
@@ -660,6 +668,8 @@ public final class PairedStepsPromises {
         for (int[] w : wrongs) {
             due("pairs " + w[0] + " " + w[1] + " " + w[2], z.pairs(w[0], w[1], w[2]), INVALID);
         }
+        due("not even for the cell a alone", with("#;", "a=a+1;#;").pairs(1, 1, 3), 0);
+        due("not even for the cell f alone", with("#;", "f=1;#;").pairs(1, 1, 3), 0);
         due("leads of 0", with("#;", "#;").pairs(-999, 999, 1), 0);
         due("a ? and a [ are steps", with("?a:.[c]#;", "#;").pairs(0, 0, 2), 2);
     }
@@ -759,6 +769,8 @@ public final class PairedStepsPromises {
         PairedSteps z = with("#;", "c=a;d=a-2;?dc=0;:.e=b;d=b-2;?de=0;:.d=0-1;?ad=a;:d=0;.#;");
         due("the first number 3", z.always(0), 1 + 8);
         due("the second number 3", z.always(1), 2);
+        due("the first input", with("#;", "c=a;d=1;?ad=0;:.?bd=0;:.?dc=9;:.d=0;#;").always(0), 1);
+        due("the last input", with("#;", "c=a;d=a*b;d=d-8;?dc=9;:.d=0;#;").always(0), 1);
         due("no pairs", with("#;", "").always(4), 63);
         due("pairs of some inputs", with("[a#;a=0;]", "[a#;a=0;]").always(0), 1);
         due("inputs below 0 do not count", with("#;", "c=a;d=0-a;?dc=9;:.d=0;#;").always(0), 5);
@@ -781,6 +793,8 @@ public final class PairedStepsPromises {
         due("a loop that ends", with("!a;[aa=a-1;]", "").idle(0), 1);
         due("inputs up to 3 alone", with("c=a-3;[c!b;c=0;]", "").idle(0), 0);
         due("the second number too", with("c=b-2;[c!b;c=0;]", "").idle(0), NONE);
+        due("the first input", with("c=1;?ac=0;:.?bc=0;:.[c!c;c=0;]", "").idle(0), NONE);
+        due("the last input", with("c=a*b;c=c-8;[c!c;c=0;]", "").idle(0), NONE);
         due("the number of all values", with("[a!b;]", "").idle(0), NONE);
         due("beyond the first 40", with("a=40;[a!b;a=a-1;]c=b;!c;", "").idle(0), 4);
         due("a number above 40", with("a=40;[a!b;a=a-1;]!b;", "").idle(0), NONE);
