@@ -513,11 +513,12 @@ public final class PairedSteps {
         }
 
         private int takeTerm() {
-            int cell = takeCell();
-            if (cell != NO_CELL) {
-                return FIRST_CELL_TERM + cell;
+            int sign = nextSign();
+            if (isCell(sign - 'a')) {
+                place++;
+                return FIRST_CELL_TERM + sign - 'a';
             }
-            return isDigit(nextSign()) ? takeNumber() : NO_TERM;
+            return isDigit(sign) ? takeNumber() : NO_TERM;
         }
 
         /** Leaves a digit too many, be it one behind a 0: it fails as what stands behind the number. */
@@ -558,7 +559,7 @@ public final class PairedSteps {
         }
 
         boolean holds(int statement) {
-            return isWithin(statement, 0, Math.min(size, MAX_STATEMENTS) - 1);
+            return statement >= 0 && statement < size && statement < MAX_STATEMENTS;
         }
 
         boolean add(int kind, int target, int outer) {
@@ -885,25 +886,28 @@ public final class PairedSteps {
 
         /** Makes the step of a statement, and returns the statement that comes next. */
         private int stepFrom(Listing listing, int at) {
+            int target = listing.targetOf(at);
+            boolean isGreater = valueOf(target) > 0;
             switch (listing.kindOf(at)) {
                 case SET:
-                    setCell(listing.targetOf(at), resultOf(listing, at));
+                    setCell(target, resultOf(listing, at));
                     return listing.followerAt(at);
                 case TELL:
-                    output.add(valueOf(listing.targetOf(at)));
+                    output.add(valueOf(target));
                     return listing.followerAt(at);
                 case MARK:
                     keepMark();
                     return listing.followerAt(at);
                 case LOOP:
-                    return look(listing, at);
+                    countLook(at, isGreater);
+                    break;
                 default:
-                    return valueOf(listing.targetOf(at)) > 0 ? listing.entered(at) : listing.passed(at);
+                    break;
             }
+            return isGreater ? listing.entered(at) : listing.passed(at);
         }
 
-        private int look(Listing listing, int at) {
-            boolean begins = valueOf(listing.targetOf(at)) > 0;
+        private void countLook(int at, boolean begins) {
             if (isWithin(at, 0, MAX_STATEMENTS - 1)) {
                 roundsSince[at] = begins ? roundsSince[at] + 1 : 0;
                 mostRounds = Math.max(mostRounds, roundsSince[at]);
@@ -911,7 +915,6 @@ public final class PairedSteps {
             if (begins) {
                 rounds++;
             }
-            return begins ? listing.entered(at) : listing.passed(at);
         }
 
         private int resultOf(Listing listing, int at) {
@@ -956,7 +959,7 @@ public final class PairedSteps {
         }
 
         int valueOf(int cell) {
-            return isCell(cell) ? cells[cell] : 0;
+            return isWithin(cell, 0, CELLS - 1) ? cells[cell] : 0;
         }
 
         int cellAtMark(int mark, int cell) {
