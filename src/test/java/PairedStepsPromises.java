@@ -1,83 +1,33 @@
 /** The promises of the document one by one, with answers that were worked out by hand. */
-public final class PairedStepsPromises {
-    private static final int INVALID = -10001;
-    private static final int STATE = -10002;
-    private static final int FULL = -10003;
-    private static final int NONE = -10009;
-
-    private static int wrong = 0;
-
-    private static void due(String call, int got, int want) {
-        if (got != want) {
-            wrong++;
-            System.out.println(call + " answered " + got + ", due is " + want);
-        }
-    }
-
+public final class PairedStepsPromises extends Checks {
     public static void main(String[] args) {
-        newObject();
-        append();
-        clearText();
-        readStatements();
-        readSpaces();
-        readNumbers();
-        readFailures();
-        readDepth();
-        readAsAction();
-        copyProgram();
-        exchangePrograms();
-        cutStatements();
-        undoStates();
-        countNumbers();
-        programProperties();
-        runSteps();
-        runRounds();
-        runValues();
-        toldValues();
-        cellsAtMarks();
-        pairsOfMarks();
-        equalCells();
-        firstDifferences();
-        agreement();
-        alwaysEqual();
-        idleStatements();
-        System.out.println(wrong == 0 ? "all answers are as due" : wrong + " answers are not as due");
-        if (wrong != 0) {
-            System.exit(1);
-        }
-    }
-
-    private static void type(PairedSteps x, String text) {
-        x.clearText();
-        for (int i = 0; i < text.length(); i++) {
-            due("append in " + text, x.append(text.charAt(i)), i + 1);
-        }
-    }
-
-    private static int readText(PairedSteps x, int program, String text) {
-        type(x, text);
-        return x.read(program);
-    }
-
-    private static PairedSteps with(String zeroth, String first) {
-        PairedSteps x = new PairedSteps();
-        check("read " + zeroth, readText(x, 0, zeroth));
-        check("read " + first, readText(x, 1, first));
-        return x;
-    }
-
-    private static void check(String call, int got) {
-        if (got < 0) {
-            due(call, got, 0);
-        }
-    }
-
-    private static void reads(String text, int want) {
-        due("read \"" + text + "\"", readText(new PairedSteps(), 0, text), want);
-    }
-
-    private static String times(String part, int times) {
-        return part.repeat(times);
+        test("Promise 1: new object", PairedStepsPromises::newObject);
+        test("Promise 2: append", PairedStepsPromises::append);
+        test("Promise 3: clear text", PairedStepsPromises::clearText);
+        test("Promise 4: read statements", PairedStepsPromises::readStatements);
+        test("Promise 4: read spaces", PairedStepsPromises::readSpaces);
+        test("Promise 4: read numbers", PairedStepsPromises::readNumbers);
+        test("Promise 4: read failures", PairedStepsPromises::readFailures);
+        test("Promise 4: read depth", PairedStepsPromises::readDepth);
+        test("Promise 4: read as action", PairedStepsPromises::readAsAction);
+        test("Promise 5: copy program", PairedStepsPromises::copyProgram);
+        test("Promise 6: exchange programs", PairedStepsPromises::exchangePrograms);
+        test("Promise 7: cut statements", PairedStepsPromises::cutStatements);
+        test("Promise 8: undo states", PairedStepsPromises::undoStates);
+        test("Promise 9: count numbers", PairedStepsPromises::countNumbers);
+        test("Promise 10: program properties", PairedStepsPromises::programProperties);
+        test("Promise 11: run steps", PairedStepsPromises::runSteps);
+        test("Promise 11: run rounds", PairedStepsPromises::runRounds);
+        test("Promise 11: run values", PairedStepsPromises::runValues);
+        test("Promise 12: told values", PairedStepsPromises::toldValues);
+        test("Promise 13: cells at marks", PairedStepsPromises::cellsAtMarks);
+        test("Promise 14: pairs of marks", PairedStepsPromises::pairsOfMarks);
+        test("Promise 15: equal cells", PairedStepsPromises::equalCells);
+        test("Promise 16: first differences", PairedStepsPromises::firstDifferences);
+        test("Promise 17: agreement", PairedStepsPromises::agreement);
+        test("Promise 18: always equal", PairedStepsPromises::alwaysEqual);
+        test("Promise 19: idle statements", PairedStepsPromises::idleStatements);
+        finish();
     }
 
     // ---- Promise 1
