@@ -202,6 +202,15 @@ public final class PairedStepsEdges extends Checks {
             x.append(';');
             due("read(0)", x.read(0), 2);
         });
+        test("read: a text that failed within [ or ? leaves nothing to the next one", () -> {
+            PairedSteps x = new PairedSteps();
+            due("read(0)", readText(x, 0, "[a?b#;[c"), -1008);
+            due("read(0)", readText(x, 0, "#;"), 1);
+            due("program(0, 6)", x.program(0, 6), 0);
+            due("read(0)", readText(x, 0, "[a[b[c[d[e["), -1010);
+            due("read(0)", readText(x, 0, "#;]"), -1002);
+            due("read(0)", readText(x, 0, times("[a", 5) + times("]", 5)), 5);
+        });
         test("read: Returns the number of its statements: 0, 1 and 60, and those that are nested too", () -> {
             reads("", 0);
             reads("!a;", 1);
@@ -355,6 +364,17 @@ public final class PairedStepsEdges extends Checks {
             due("run(1, 0, 0, 3)", x.run(1, 0, 0, 3), 1);
             due("run(1, 1, 0, 0)", x.run(1, 1, 0, 0), 2);
         });
+        test("cut: what is behind a cut statement goes on as it did, [ and ? too", () -> {
+            PairedSteps x = with("#;[b?b#;:.b=b-1;]#;", "[c#;?c!c;:.]?a!a;[b!b;b=b-1;]:!c;.");
+            due("cut(0, 0)", x.cut(0, 0), 5);
+            due("run(0, 0, 3, 3)", x.run(0, 0, 3, 3), 4);
+            due("run(0, 0, 3, 0)", x.run(0, 0, 3, 0), 14);
+            due("program(0, 6)", x.program(0, 6), 2);
+            due("cut(1, 0)", x.cut(1, 0), 6);
+            due("run(1, 1, 3, 2)", x.run(1, 1, 3, 2), 4);
+            due("run(1, 0, 3, 2)", x.run(1, 0, 3, 2), 1);
+            due("program(1, 6)", x.program(1, 6), 2);
+        });
         test("cut: what is around a cut [ or ? goes on behind it", () -> {
             PairedSteps x = with("[a[b[b]]!a;a=a-1;]!b;", "?a?b!b;:.!a;:?b:!b;.!c;.#;");
             due("cut(0, 1)", x.cut(0, 1), 4);
@@ -437,6 +457,26 @@ public final class PairedStepsEdges extends Checks {
             x.undo();
             due("count(0)", x.count(0), 0);
             due("count(2)", x.count(2), 0);
+        });
+        test("undo: restores both programs, behind each of the actions", () -> {
+            String[] sizes = {"#;", "!a;!a;"};
+            for (int action = 0; action <= 4; action++) {
+                PairedSteps x = with(sizes[0], sizes[1]);
+                if (action <= 1) {
+                    due("read(" + action + ")", readText(x, action, "#;#;#;"), 3);
+                } else if (action == 2) {
+                    due("copy()", x.copy(), 1);
+                } else if (action == 3) {
+                    due("exchange()", x.exchange(), 2);
+                } else {
+                    due("cut(0, 0)", x.cut(0, 0), 0);
+                }
+                due("undo() behind the action " + action, x.undo(), 2);
+                due("program(0, 3) behind the action " + action, x.program(0, 3), 1);
+                due("count(0) behind the action " + action, x.count(0), 1);
+                due("program(1, 2) behind the action " + action, x.program(1, 2), 2);
+                due("count(1) behind the action " + action, x.count(1), 2);
+            }
         });
         test("undo: an action behind it is recorded in place of what was undone", () -> {
             PairedSteps x = with("#;", "!a;");
@@ -527,6 +567,20 @@ public final class PairedStepsEdges extends Checks {
         test("program: 7 a cell that is set twice, or in [ or ?, is in the set once", () -> {
             due("program(0, 7)", with("b=1;b=2;", "").program(0, 7), 2);
             due("program(0, 7)", with("[ab=1;]?ad=1;:e=1;.", "").program(0, 7), 2 + 8 + 16);
+        });
+        test("program: what has been cut out counts no more", () -> {
+            PairedSteps x = with("b=1;a=1;!a;[a?b:.]", "");
+            x.cut(0, 3);
+            due("program(0, 4)", x.program(0, 4), 0);
+            due("program(0, 5)", x.program(0, 5), 0);
+            due("program(0, 6)", x.program(0, 6), 0);
+            x.cut(0, 2);
+            due("program(0, 2)", x.program(0, 2), 0);
+            x.cut(0, 1);
+            due("program(0, 1)", x.program(0, 1), 1);
+            due("program(0, 7)", x.program(0, 7), 2);
+            x.cut(0, 0);
+            due("program(0, 7)", x.program(0, 7), 0);
         });
         test("program: INVALID_ARGUMENT if an argument is out of range: program", () -> {
             PairedSteps x = with("#;", "#;");
@@ -651,6 +705,13 @@ public final class PairedStepsEdges extends Checks {
             due("run(0, 1, 0, 5)", with("[a]", "").run(0, 1, 0, 5), 400);
             due("run(0, 1, 0, 5)", with("[a#;]", "").run(0, 1, 0, 5), 200);
             due("run(0, 1, 1, 5)", with("#;[a[b]]", "").run(0, 1, 1, 5), 398);
+        });
+        test("run: 5 or the run was cut off: the next run begins with none", () -> {
+            PairedSteps x = with("[a]", "");
+            for (int time = 0; time < 3; time++) {
+                due("run(0, 1, 0, 5)", x.run(0, 1, 0, 5), 400);
+                due("run(0, 0, 0, 5)", x.run(0, 0, 0, 5), 0);
+            }
         });
     }
 
@@ -1102,6 +1163,12 @@ public final class PairedStepsEdges extends Checks {
             due("the second number -1", with("#;", "c=0-b;[cd=1;c=0;]c=0;#;").always(5), 60);
             due("the second number 0", with("#;", "c=1-b;[cd=1;c=0;]c=0;#;").always(5), 60 - 8);
         });
+        test("always: all inputs with numbers of 0 to 3: each corner of them is enough to part them", () -> {
+            due("0 0", with("#;", "c=1;?ac=0;:.?bc=0;:.[cd=1;c=0;]#;").always(5), 60 - 8);
+            due("0 3", with("#;", "c=b-a;c=c-2;[cd=1;c=0;]c=0;#;").always(5), 60 - 8);
+            due("3 0", with("#;", "c=a-b;c=c-2;[cd=1;c=0;]c=0;#;").always(5), 60 - 8);
+            due("3 3", with("#;", "c=a*b;c=c-8;[cd=1;c=0;]c=0;#;").always(5), 60 - 8);
+        });
         test("always: at all pairs of all inputs: only one pair of one input parts them", () ->
             due("always(5)", with("#;#;#;", "#;c=a*b;c=c-8;[cd=1;c=0;]c=0;#;d=0;#;").always(5), 60 - 8));
     }
@@ -1149,6 +1216,12 @@ public final class PairedStepsEdges extends Checks {
             due("the first number 0", with("!b;c=1-a;?c!c;:.", "").idle(0), NONE);
             due("the second number -1", with("!a;c=0-b;?c!c;:.", "").idle(0), 1);
             due("the second number 0", with("!a;c=1-b;?c!c;:.", "").idle(0), NONE);
+        });
+        test("idle: all runs with numbers of 0 to 3: each corner of them may need a statement", () -> {
+            due("0 0", with("!b;c=1;?ac=0;:.?bc=0;:.?c!c;:.", "").idle(0), NONE);
+            due("0 3", with("!a;!b;c=b-a;c=c-2;?c!c;:.", "").idle(0), NONE);
+            due("3 0", with("!a;!b;c=a-b;c=c-2;?c!c;:.", "").idle(0), NONE);
+            due("3 3", with("!a;!b;c=a*b;c=c-8;?c!c;:.", "").idle(0), NONE);
         });
         test("idle: the same first 40 values: the value 39 counts, the value 40 does not", () -> {
             due("the value 39", with("a=39;[a!b;a=a-1;]c=1;!c;", "").idle(0), NONE);
