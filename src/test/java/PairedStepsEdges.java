@@ -710,8 +710,8 @@ public final class PairedStepsEdges extends Checks {
             PairedSteps x = with("[a]", "");
             for (int time = 0; time < 3; time++) {
                 due("run(0, 1, 0, 5)", x.run(0, 1, 0, 5), 400);
-                due("run(0, 0, 0, 5)", x.run(0, 0, 0, 5), 0);
             }
+            due("run(0, 0, 0, 5)", x.run(0, 0, 0, 5), 0);
         });
     }
 
