@@ -626,7 +626,7 @@ public final class PairedSteps {
                 moveDown(from, from - gone);
             }
             size -= gone;
-            for (int at = 0; at < size; at++) {
+            for (int at = 0; at < size && at < MAX_STATEMENTS; at++) {
                 outers[at] = placeWithout(outers[at], statement, gone);
                 middles[at] = placeWithout(middles[at], statement, gone);
                 ends[at] = placeWithout(ends[at], statement, gone);
@@ -653,7 +653,7 @@ public final class PairedSteps {
 
         /** Finds all followers; that of a statement needs that of the one around it, which stands ahead. */
         void link() {
-            for (int at = 0; at < size; at++) {
+            for (int at = 0; at < size && at < MAX_STATEMENTS; at++) {
                 followers[at] = followerOf(at);
             }
         }
@@ -715,7 +715,7 @@ public final class PairedSteps {
 
         int tally(int kind) {
             int found = 0;
-            for (int at = 0; at < size; at++) {
+            for (int at = 0; at < size && at < MAX_STATEMENTS; at++) {
                 if (kinds[at] == kind) {
                     found++;
                 }
@@ -725,7 +725,7 @@ public final class PairedSteps {
 
         int nesting() {
             int deepest = 0;
-            for (int at = 0; at < size; at++) {
+            for (int at = 0; at < size && at < MAX_STATEMENTS; at++) {
                 if (kinds[at] == LOOP || kinds[at] == CHOICE) {
                     deepest = Math.max(deepest, depthOf(at));
                 }
@@ -745,7 +745,7 @@ public final class PairedSteps {
 
         int settableCells() {
             int cells = 0;
-            for (int at = 0; at < size; at++) {
+            for (int at = 0; at < size && at < MAX_STATEMENTS; at++) {
                 if (kinds[at] == SET) {
                     cells |= 1 << targets[at];
                 }

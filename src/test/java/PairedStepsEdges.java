@@ -568,6 +568,11 @@ public final class PairedStepsEdges extends Checks {
             due("program(0, 7)", with("b=1;b=2;", "").program(0, 7), 2);
             due("program(0, 7)", with("[ab=1;]?ad=1;:e=1;.", "").program(0, 7), 2 + 8 + 16);
         });
+        test("program: 7 is a property of a program: also a cell that no run sets, or that is set to itself", () -> {
+            due("program(0, 7)", with("[cd=1;]", "").program(0, 7), 8);
+            due("program(0, 7)", with("c=1;?c:e=2;.[c]f=3;", "").program(0, 7), 4 + 16 + 32);
+            due("program(0, 7)", with("b=b;", "").program(0, 7), 2);
+        });
         test("program: what has been cut out counts no more", () -> {
             PairedSteps x = with("b=1;a=1;!a;[a?b:.]", "");
             x.cut(0, 3);

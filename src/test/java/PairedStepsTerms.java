@@ -308,6 +308,14 @@ public final class PairedStepsTerms extends Checks {
             due("append('#')", x.append('#'), FULL);
             due("read(0)", x.read(0), 60);
         });
+        test("the first character of a 61st statement: that of a 60th one is allowed, at the last places too", () -> {
+            for (char sign : BEGINNINGS.toCharArray()) {
+                reads(times("#;", 59) + sign, -1119);
+                reads(times("#;", 59) + " " + sign, -1120);
+            }
+            reads(times("#;", 58) + "[a#;", -1120);
+            reads(times("#;", 57) + "?a#;#;", -1120);
+        });
         test("it fails at its length if it ends where something is missing: each part of a text", () -> {
             String text = "?a[b!c;]:#;a=b+12;.";
             for (int length = 1; length < text.length(); length++) {
@@ -496,6 +504,14 @@ public final class PairedStepsTerms extends Checks {
             PairedSteps x = with("#;[a#;]", "");
             due("run(0, 1, 0, 3)", x.run(0, 1, 0, 3), 200);
             due("run(0, 1, 0, 4)", x.run(0, 1, 0, 4), 200);
+            due("run(0, 1, 0, 5)", x.run(0, 1, 0, 5), 200);
+        });
+        test("as long as the cell is greater than 0 as a round begins: the look is the 400th step", () -> {
+            PairedSteps x = with("[aa=a-1;#;]", "");
+            for (int what = 4; what <= 5; what++) {
+                due("run(0, 133, 0, " + what + "): the cell is 0 then", x.run(0, 133, 0, what), 133);
+                due("run(0, 134, 0, " + what + "): the cell is 1 then", x.run(0, 134, 0, what), 134);
+            }
         });
     }
 
